@@ -193,19 +193,19 @@ public final class InflatedRows {
 
     public long numbers(int sort, int n) {
         if (!book.hasSort(sort) || n < 0 || n > MOST_INFLATIONS) return BAD;
-        return orOver(tally.run(book, n) ? tally.of(sort) : Exact.BEYOND);
+        return orOver(tally.run(book, n) ? tally.of(sort) : Checked.BEYOND);
     }
 
     public long share(int sort, int n, int what) {
         if (!book.hasSort(sort) || n < 0 || n > MOST_INFLATIONS || what < 0 || what > 1) return BAD;
-        long sum = tally.run(book, n) ? tally.sum() : Exact.BEYOND;
-        return orOver(sum < 0 ? sum : Exact.partOfFraction(tally.of(sort), sum, what));
+        long sum = tally.run(book, n) ? tally.sum() : Checked.BEYOND;
+        return orOver(sum < 0 ? sum : Checked.partOfFraction(tally.of(sort), sum, what));
     }
 
     public long all(int n, int what) {
         if (!book.stands()) return STATE;
         if (n < 0 || n > MOST_INFLATIONS || what < 0 || what > 1) return BAD;
-        return orOver(tally.run(book, n) ? tally.wholeLength(book, what) : Exact.BEYOND);
+        return orOver(tally.run(book, n) ? tally.wholeLength(book, what) : Checked.BEYOND);
     }
 
     public int whole(int what) {
@@ -286,7 +286,7 @@ public final class InflatedRows {
     public long lost(int sort, int v, int p, int what) {
         if (!book.hasSort(sort) || v < 0 || v > Losses.MOST || p < 0 || p > 10 || what < 0 || what > 1) return BAD;
         losses.spread(book, sort, p);
-        return Exact.partOfFraction(losses.casesUpTo(v), losses.cases(), what);
+        return Checked.partOfFraction(losses.casesUpTo(v), losses.cases(), what);
     }
 
     public int drawn(int n, int seed, int what) {
@@ -473,11 +473,11 @@ public final class InflatedRows {
     }
 
     /** Whole numbers from 0 on that a long holds; one that it does not hold is BEYOND. */
-    private static final class Exact {
+    private static final class Checked {
         static final long BEYOND = -1;
         private static final int MOST_DIVISIONS = 100;
 
-        private Exact() {
+        private Checked() {
         }
 
         static long plus(long a, long b) {
@@ -1210,8 +1210,8 @@ public final class InflatedRows {
             for (int to = 0; to < sorts; to++) {
                 next[to] = 0;
                 for (int from = 0; from < sorts; from++) {
-                    long more = Exact.times(now[from], timesInImage[from * Book.MOST_SORTS + to]);
-                    next[to] = Exact.plus(next[to], more);
+                    long more = Checked.times(now[from], timesInImage[from * Book.MOST_SORTS + to]);
+                    next[to] = Checked.plus(next[to], more);
                 }
                 if (next[to] < 0) return false;
             }
@@ -1225,14 +1225,14 @@ public final class InflatedRows {
 
         long sum() {
             long sum = 0;
-            for (int sort = 0; sort < sorts; sort++) sum = Exact.plus(sum, now[sort]);
+            for (int sort = 0; sort < sorts; sort++) sum = Checked.plus(sum, now[sort]);
             return sum;
         }
 
         long wholeLength(Book book, int which) {
             long sum = 0;
             for (int sort = 0; sort < sorts; sort++) {
-                sum = Exact.plus(sum, Exact.times(now[sort], book.lengthOf(sort, which)));
+                sum = Checked.plus(sum, Checked.times(now[sort], book.lengthOf(sort, which)));
             }
             return sum;
         }
