@@ -94,8 +94,8 @@ public final class InflatedRows {
 
     public int word(int sort, int row, int n) {
         if (!book.hasSort(sort) || !Rows.isRow(row) || n < 1 || n > Book.MOST_WORD) return BAD;
-        int fault = lettersFinding(row, n);
-        if (fault != 0) return found(fault);
+        int wrong = lettersFinding(row, n);
+        if (wrong != 0) return found(wrong);
         int had = book.wordSize(sort);
         memory.keepAct(book);
         book.clearWord(sort);
@@ -132,8 +132,8 @@ public final class InflatedRows {
     public int begin(int row, int n) {
         if (!book.stands()) return STATE;
         if (!Rows.isRow(row) || n < 1 || n > Book.MOST_ROW) return BAD;
-        int fault = lettersFinding(row, n);
-        if (fault != 0) return found(fault);
+        int wrong = lettersFinding(row, n);
+        if (wrong != 0) return found(wrong);
         int had = book.rowSize();
         memory.keepAct(book);
         book.clearRow();
@@ -231,8 +231,8 @@ public final class InflatedRows {
     public int back(int row, int n, int what) {
         if (!book.stands()) return STATE;
         if (!Rows.isRow(row) || n < 1 || n > Rows.MOST_ITEMS || what < -1) return BAD;
-        int fault = lettersFinding(row, n);
-        if (fault != 0) return found(fault);
+        int wrong = lettersFinding(row, n);
+        if (wrong != 0) return found(wrong);
         folding.clear();
         for (int i = 0; i < n; i++) folding.add(rows.item(row, i));
         folding.unfold(book);
@@ -250,9 +250,7 @@ public final class InflatedRows {
         if (!Rows.isRow(row) || m < 1 || m > Rows.MOST_ITEMS) return BAD;
         if (rows.isMissing(row)) return found(NULL);
         if (m > rows.sizeOf(row)) return found(PLACE);
-        if (which == 0) return unfound(kindsThatTell(sort, n, row, m));
-        if (which == 1) return unfound(rowLettersThatTell(x, n, row, m));
-        return unfound(wordLettersThatTell(sort, x, n, row, m));
+        return unfound(bitsThatTell(sort, x, which, n, row, m));
     }
 
     public int quiet() {
@@ -409,32 +407,17 @@ public final class InflatedRows {
         return NONE;
     }
 
-    private int kindsThatTell(int sort, int n, int row, int m) {
+    /** Bits of the KINDS (which = 0) or letters by which the m ITEMS are so. */
+    private int bitsThatTell(int sort, int x, int which, int n, int row, int m) {
+        int least = which == 0 ? Kinds.PLAIN : 0;
+        int most = which == 0 ? Kinds.SPLIT : book.sortCount() - 1;
         int bits = 0;
         trial.takeAll(book);
-        for (int kind = Kinds.PLAIN; kind <= Kinds.SPLIT; kind++) {
-            trial.setKind(sort, kind);
-            if (trialTells(n, row, m)) bits |= 1 << kind;
-        }
-        return bits;
-    }
-
-    private int rowLettersThatTell(int x, int n, int row, int m) {
-        int bits = 0;
-        trial.takeAll(book);
-        for (int letter = 0; letter < book.sortCount(); letter++) {
-            trial.setRowLetter(x, letter);
-            if (trialTells(n, row, m)) bits |= 1 << letter;
-        }
-        return bits;
-    }
-
-    private int wordLettersThatTell(int sort, int x, int n, int row, int m) {
-        int bits = 0;
-        trial.takeAll(book);
-        for (int letter = 0; letter < book.sortCount(); letter++) {
-            trial.setWordLetter(sort, x, letter);
-            if (trialTells(n, row, m)) bits |= 1 << letter;
+        for (int v = least; v <= most; v++) {
+            if (which == 0) trial.setKind(sort, v);
+            if (which == 1) trial.setRowLetter(x, v);
+            if (which == 2) trial.setWordLetter(sort, x, v);
+            if (trialTells(n, row, m)) bits |= 1 << v;
         }
         return bits;
     }
@@ -1278,7 +1261,7 @@ public final class InflatedRows {
         /** Below 0: there is none. */
         int letterOfFirst(Book book, int which) {
             int at = 0;
-            for (int i = 0; i <= which && at < size; i++) {
+            for (int i = 0; i < size && at < size; i++) {
                 int sort = leastAt(book, at);
                 if (sort < 0 || i == which) return sort;
                 at += book.imageSize(sort);

@@ -123,6 +123,9 @@ public final class AskedTest {
         status(x, x.row(1, 1, 2), 0);
         status(x, x.copy(0, 0, 1, 0, 1), 5);
         status(x, x.copy(0, 0, 0, 0, 1), 0);
+        status(x, x.copy(0, 0, 0, 0, 3), 2);
+        status(x, x.copy(0, 0, 2, 0, 1), 1);
+        status(x, x.copy(0, 0, 0, 0, 1), 0);
         status(x, x.drop(7), 1);
         status(x, x.drop(1), 0);
         status(x, x.drop(1), 1);
@@ -136,8 +139,13 @@ public final class AskedTest {
         status(x, x.begin(1, 1), 1);
         status(x, x.back(0, 1, -1), 0);
         status(x, x.back(0, 3, -1), 2);
+        status(x, x.back(0, 1, 0), 0);
+        status(x, x.back(1, 1, 0), 1);
         status(x, x.who(0, 0, 0, 0, 0, 1), 0);
         status(x, x.who(0, 0, 0, 0, 0, 3), 2);
+        status(x, x.who(0, 0, 1, 0, 0, 1), 0);
+        status(x, x.who(0, 0, 0, 0, 1, 1), 1);
+        status(x, x.who(0, 0, 2, 0, 0, 1), 0);
     }
 
     private static void promise38Others() {

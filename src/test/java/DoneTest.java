@@ -55,6 +55,8 @@ public final class DoneTest {
         due.is("an ITEM that is no SORT here", x.word(0, 0, 3), PLACE);
         x.row(1, 0, 1);
         due.is("beyond the end", x.word(0, 1, 2), PLACE);
+        x.set(1, 0, 2);
+        due.is("the first ITEM is no letter", x.word(0, 1, 1), PLACE);
         due.is("nothing was done", x.count(4), 0);
         due.is("the WORD stays", x.sort(0, 11), 1);
         due.is("an ITEM behind the last that counts is free", x.word(0, 0, 2), 2);

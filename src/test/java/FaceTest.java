@@ -119,11 +119,12 @@ public final class FaceTest {
         methodsAreShort(code);
     }
 
+    /** A class inside ends right behind its last method, so that its brace counts for that one. */
     private static void methodsAreShort(String code) {
         int lines = 0;
         for (String line : code.split("\n")) {
             lines = line.matches(" {4}( {4})?\\S.*\\) \\{") ? 0 : lines + 1;
-            if (line.matches(" {4}( {4})?\\}")) is("a method of " + lines + " lines", lines <= 60 || line.startsWith("    }"));
+            if (line.matches(" {4}( {4})?\\}")) is("a method of " + lines + " lines", lines <= 60);
         }
     }
 }

@@ -68,6 +68,8 @@ public final class ForetoldTest {
         due.is("a letter of THE ROW", x.who(0, 0, 1, 6, 0, 1), 0);
         Due.row(x, 1, 1);
         due.is("another letter of THE ROW", x.who(0, 0, 1, 6, 1, 1), kinds(1));
+        x.row(2, 0, 40);
+        due.is("40 ITEMS", x.who(0, 0, 0, 6, 2, 40), kinds(5));
     }
 
     private static void promise26Refusals() {
@@ -103,6 +105,7 @@ public final class ForetoldTest {
         // All pairs of a and b are there whatever the letters are: a b b a, b a a b.
         due.is("all places", Due.with("r1,1;p1,1,ab;p1,1,ba;xab;").quiet(), 3);
         due.is("there is no other letter", Due.with("r1,1;p1,1,aa;xaaa;").quiet(), 0);
+        due.is("there is no other letter, nor a PAIR", Due.with("r1,1;f1,1,a;xa;").quiet(), 0);
         // Fixed ones: PAIRS are those of THE ROW.
         due.is("a a a a: none", Due.with("r1,1;f1,1,a;f1,1,b;xaaaa;").quiet(), 0);
         due.is("one letter has no PAIRS", Due.with("r1,1;f1,1,a;f1,1,b;xa;").quiet(), 1);

@@ -145,6 +145,15 @@ public final class GrowsTest {
         x.begin(0, 8);
         due.is("7 of them", x.numbers(0, 60), 7L << 60);
         due.is("the fixed one", x.numbers(1, 60), 1);
+        // 7 of them, and b that leaves an a each time: one less than 8 would be, and so the most that there is.
+        InflatedRows y = Due.with("r1,1;s1,1,a;p0,1,ba;xaaaaaaab;");
+        due.is("the most", y.numbers(0, 60), Long.MAX_VALUE);
+        due.is("the most, p", y.all(60, 0), Long.MAX_VALUE);
+        due.is("one more, q", y.all(60, 1), OVER);
+        due.is("one more, all", y.share(0, 60, 1), OVER);
+        InflatedRows z = Due.with("r1,1;s4,5,a;p0,0,ba;xab;");
+        due.is("four times a quarter of it", z.all(60, 0), Long.MAX_VALUE - 3);
+        due.is("five times that", z.all(60, 1), OVER);
     }
 
     private static void promise22() {
@@ -222,6 +231,11 @@ public final class GrowsTest {
         pairsOf("r1,1;l1,1,bcd;f1,1,b;f1,1,c;f1,1,d;xa;", "bc", "cd");
         // Letters that never lie in THE ROW bring nothing.
         pairsOf("r1,1;p1,1,a;p1,1,bb;xaa;", "aa");
+        pairsOf("r1,1;p1,1,bb;p1,1,b;xb;");
+        InflatedRows y = Due.with("r1,1;p1,1,ab;p1,1,bb;xa;");
+        y.row(0, 0, 1);
+        y.word(0, 0, 1);
+        due.is("nor does what a WORD had", y.whole(3), 0);
         // Late ones: only behind the third inflation does d lie beside itself.
         pairsOf("r1,1;p1,1,b;p1,1,c;p1,1,dd;f1,1,a;xa;", "dd");
         InflatedRows x = Due.with("r3,7;p1,1,ab;p1,1,a;xaba;");
@@ -252,6 +266,7 @@ public final class GrowsTest {
         scale("r1,1;p1,0,a;p1,0,bb;xa;", NONE, NONE);
         // With R R = 1 both 3 and 3 R would do, and what lies between: the least s.
         scale("r0,1;p1,1,aaa;xa;", 0, 3);
+        scale("r0,1;p1,1,aaaa;xa;", 0, 4);
     }
 
     private static void promise24Refusals() {
