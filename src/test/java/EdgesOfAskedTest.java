@@ -199,7 +199,7 @@ public final class EdgesOfAskedTest extends Edges {
 
     private void promise37Most() {
         test(37, "as many as there can be: 4 SORTS, 8 letters, 16 letters of WORDS, 24 ACTS, 120 bytes");
-        InflatedRows x = Due.with("r3,9;" + "p9,9,abcd;".repeat(4) + "xabcdabcd;");
+        InflatedRows x = Due.with("r3,9;" + "p9,9,dcba;".repeat(4) + "xdcbadcba;");
         is("SORTS", x.count(1), 4);
         is("letters", x.count(2), 8);
         is("letters of all WORDS", x.count(3), 16);

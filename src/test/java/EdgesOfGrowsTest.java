@@ -471,6 +471,11 @@ public final class EdgesOfGrowsTest extends Edges {
         scale("r2,3;p0,1,bbb;p3,0,bbb;xa;", NONE, NONE);
         test(24, "SCALE: each SORT counts, also one that never lies in THE ROW");
         scale("r1,1;p1,0,a;p1,0,bb;xa;", NONE, NONE);
+        test(24, "SCALE: of four SORTS, the first and the last count");
+        scale("r1,1;p1,0,ad;p2,0,bb;p0,0,c;p1,0,da;xa;", 2, 0);
+        scale("r1,1;p1,0,a;p2,0,bb;p0,0,c;p1,0,da;xa;", NONE, NONE);
+        scale("r1,1;p1,0,ad;p2,0,bb;p0,0,c;p1,0,d;xa;", NONE, NONE);
+        scale("r1,1;p9,9,bcda;p9,9,abcd;p9,9,dcba;p9,9,dddd;xd;", 4, 0);
         test(24, "SCALE: by IMAGES of each KIND, a long one twice as long");
         scale("r1,1;f3,2,a;xa;", 1, 0);
         scale("r1,1;s3,2,a;xa;", 2, 0);

@@ -10,6 +10,7 @@ public final class EdgesOfRowsTest extends Edges {
     public static void main(String[] args) {
         EdgesOfRowsTest edges = new EdgesOfRowsTest();
         edges.promise1();
+        edges.promise1Apart();
         edges.promise1Refusals();
         edges.promise2();
         edges.promise2Refusals();
@@ -48,6 +49,26 @@ public final class EdgesOfRowsTest extends Edges {
         is("trace(0)", y.trace(0), NONE);
         is("fault()", y.fault(), 0);
         is("status()", y.status(), 0);
+    }
+
+    private void promise1Apart() {
+        InflatedRows x = Due.with(FOUR);
+        InflatedRows y = new InflatedRows();
+        x.row(0, 0, 3);
+        x.feed('r');
+        x.ask(0, 0);
+        x.as(0, 1);
+        x.image(0);
+        test(1, "a new object has nothing of another one, and what is done to it leaves that");
+        for (int what = 0; what <= 5; what++) is("count(" + what + ")", y.count(what), 0);
+        is("trace(0)", y.trace(0), NONE);
+        is("status()", y.status(), 0);
+        is("restore(0)", y.restore(0), STATE);
+        Due.book(y, "r3,9;l9,9,aa;xaaa;");
+        y.row(0, 2, 40);
+        is("SORTS", x.count(1), 4);
+        is("THE ROW", x.count(2), 1);
+        is("drop(0)", x.drop(0), 3);
     }
 
     private void promise1Refusals() {

@@ -135,6 +135,13 @@ public final class EdgesOfTextsTest extends Edges {
         }
         for (String kind : new String[] {"p", "m", "l", "f", "s"}) faulty("r0,1;" + kind + "0,10,a;xa;", 2, 8);
         faulty("r0,1;p0,99,a;xa;", 2, 8);
+        test(7, "a sort that breaks off ahead of a letter that could begin the next one: FAULT 1 at that letter");
+        faulty("r0,1;p0xa;", 1, 7);
+        faulty("r0,1;p0,0xa;", 1, 9);
+        faulty("r0,1;p0p0,0,a;xa;", 1, 7);
+        faulty("r0,1;p0,0,axa;", 1, 11);
+        faulty("r0,1;p0,0,a;pxa;", 1, 13);
+        faulty("r0,1;p0,0,a;p0,xa;", 1, 15);
         test(7, "P and Q of a later SORT, too");
         faulty("r0,1;p0,0,a;p10,0,a;xa;", 2, 13);
         faulty("r0,1;p0,0,a;p0,10,a;xa;", 2, 15);

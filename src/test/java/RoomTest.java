@@ -9,13 +9,14 @@ public final class RoomTest {
     private static long answers = 0;
 
     public static void main(String[] args) {
-        calls(new InflatedRows(), 100);
+        for (int i = 0; i < 25; i++) calls(new InflatedRows());
+        InflatedRows[] objects = new InflatedRows[25];
         long ahead = made();
-        InflatedRows x = new InflatedRows();
-        long object = made() - ahead;
+        for (int i = 0; i < 25; i++) objects[i] = new InflatedRows();
+        long object = (made() - ahead) / 25;
         due.is("an object of " + object + " bytes is small", object > 0 && object < 40000 ? 1 : 0, 1);
         ahead = made();
-        calls(x, 100);
+        for (InflatedRows x : objects) calls(x);
         long more = made() - ahead;
         due.is("calls that made " + more + " bytes made next to nothing", more < 1000 ? 1 : 0, 1);
         due.is("all calls answered", answers == 0 ? 0 : 1, 1);
@@ -26,8 +27,9 @@ public final class RoomTest {
         return THREADS.getThreadAllocatedBytes(Thread.currentThread().getId());
     }
 
-    private static void calls(InflatedRows x, int rounds) {
-        for (int i = 0; i < rounds; i++) {
+    /** As many rounds as an object's 512 calls have room for. */
+    private static void calls(InflatedRows x) {
+        for (int i = 0; i < 4; i++) {
             for (int at = 0; at < TEXT.length(); at++) answers += x.feed(TEXT.charAt(at));
             answers += x.book();
             answers += x.row(0, 0, 40) + x.set(0, 0, 1) + x.copy(0, 0, 0, 1, 39);
