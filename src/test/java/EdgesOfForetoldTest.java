@@ -363,6 +363,13 @@ public final class EdgesOfForetoldTest extends Edges {
         // 50421 leaves 1 by 4; by 16 it is 3151 and a rest: b: a b a a.
         is("SEED 3, together", x.drawn(1, 3, 0), 3);
         is("SEED 3, in all", x.drawn(1, 3, 1), pairs("aa", "ab", "ba"));
+        test(30, "one letter alone becomes another, too");
+        // SEED 1 tells a, SEED 3 tells b, as above; of b there are b b.
+        InflatedRows z = Due.with("r1,1;f1,1,a;s1,1,b;xa;");
+        is("SEED 1, together", z.drawn(1, 1, 0), 0);
+        is("SEED 1, in all", z.drawn(1, 1, 1), 0);
+        is("SEED 3, together", z.drawn(1, 3, 0), 1);
+        is("SEED 3, in all", z.drawn(1, 3, 1), pairs("bb"));
         test(30, "one letter, one SORT: nothing can become another");
         InflatedRows y = Due.with("r1,1;s1,1,a;xa;");
         is("30 times", y.drawn(30, 999999, 0), 30);

@@ -513,6 +513,12 @@ public final class EdgesOfGrowsTest extends Edges {
         back(x, "b", 0, "");
         back(x, "abb", 0, "");
         back(x, "ba", 0, "");
+        test(25, "none: NONE for each letter, also where what lies behind the first has ways");
+        for (String row : new String[] {"a", "aaaa", "aaaaa"}) {
+            back(Due.with("r1,1;p1,1,ab;p1,1,a;x" + row + ";"), "baab", 0, "");
+            back(Due.with("r1,1;p1,1,b;p1,1,b;p1,1,bb;p1,1,bbb;xc" + row + ";"), "cbb", 0, "");
+            back(Due.with("r1,1;p1,1,bb;p1,1,b;p1,1,b;p1,1,b;xc" + row + ";"), "cabb", 0, "");
+        }
         test(25, "none: also where the row begins well and ends within an IMAGE");
         InflatedRows y = Due.with("r1,1;p1,1,bab;f1,1,b;xa;");
         back(y, "ba", 0, "");
