@@ -458,20 +458,21 @@ public final class InflatedRows {
     /** Whole numbers from 0 on that a long holds; one that it does not hold is BEYOND. */
     private static final class Checked {
         static final long BEYOND = -1;
+        private static final long MOST = 9223372036854775807L;
         private static final int MOST_DIVISIONS = 100;
 
         private Checked() {
         }
 
         static long plus(long a, long b) {
-            if (a < 0 || b < 0 || a > Long.MAX_VALUE - b) return BEYOND;
+            if (a < 0 || b < 0 || a > MOST - b) return BEYOND;
             return a + b;
         }
 
         static long times(long a, int factor) {
             if (a < 0 || factor < 0) return BEYOND;
             if (factor == 0) return 0;
-            return a > Long.MAX_VALUE / factor ? BEYOND : a * factor;
+            return a > MOST / factor ? BEYOND : a * factor;
         }
 
         /** Above (0) or below (1), in lowest terms. */
